@@ -741,7 +741,8 @@ public final class BondStores {
         if (l.state != GOES || isOutside(quantity, 0, l.rest()) || !now.canBeLostOn(l, loss)) {
             return NONE;
         }
-        return now.dutyOn(l, l.rest() - quantity, loss);
+        int shortage = l.rest() - quantity;
+        return now.dutyOn(l, shortage - now.allowedOf(l, shortage), loss);
     }
 
     /** Promise 42. */
@@ -1459,19 +1460,19 @@ public final class BondStores {
         void close(Load l, int state, int lossDay) {
             l.shortage = l.rest();
             l.allowed = allowedOf(l, l.shortage);
-            l.duty = dutyOn(l, l.shortage, lossDay);
+            l.duty = dutyOn(l, l.shortage - l.allowed, lossDay);
             makeDue(l, l.duty);
             release(l, l.heldNow());
             l.state = state;
         }
 
-        private int allowedOf(Load l, int shortage) {
+        int allowedOf(Load l, int shortage) {
             int days = lastDayOut(l) - l.begun;
             return Math.min(shortage, kinds[l.kind].allowanceOf(l.quantity, days));
         }
 
-        int dutyOn(Load l, int shortage, int lossDay) {
-            return (shortage - allowedOf(l, shortage)) * kinds[l.kind].rateAt(lossDay);
+        int dutyOn(Load l, int dutiable, int lossDay) {
+            return dutiable * kinds[l.kind].rateAt(lossDay);
         }
 
         int restsTo(int store, int kind) {

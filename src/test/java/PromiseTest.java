@@ -48,6 +48,12 @@ public final class PromiseTest {
         dutiesIf();
         daysOfRates();
         countsAndStatus();
+        leastNumbers();
+        wholeImages();
+        freshPlaces();
+        fourGuarantors();
+        ratesWithoutAFirst();
+        fullRates();
         Check.end("PromiseTest");
     }
 
@@ -1295,5 +1301,256 @@ public final class PromiseTest {
         due("status of undo", x.status(), 0);
         x.back(0);
         due("status of back", x.status(), 0);
+    }
+
+    private static void leastNumbers() {
+        part = "least numbers";
+        BondStores x = small();
+        due("ALLOWS 0", x.allows(0, 0, 0), 0);
+        due("CAP 0", x.allows(0, 1, 0), 0);
+        x.allows(0, 0, 99);
+        x.allows(0, 1, 999);
+        due("by ten thousand", x.allowance(0, 9999, 99), 998);
+        x.rate(0, 0, 1);
+        due("room at RATE 1", x.room(1, 0, 1), 500);
+        due("cheapest of 1 day", x.cheapest(0, 1, 1), 1);
+        x.load(1, 0, 0, 1, 1, 0);
+        due("1 is HELD", x.behind(1, 0), 1);
+        due("HELD grows by 1", x.rate(0, 1, 2), 1);
+        due("HELD", x.ofLoad(0, 9), 2);
+        x.load(1, 0, 0, 1, 1, 0);
+        due("no day of these is now", x.arrive(0, 1, true, 9999), CANNOT);
+        due("a day that is not asked", x.arrive(0, 2, false, 9999), CANNOT);
+        due("a day above, though it is not asked", x.arrive(0, 1, false, 10000), BAD);
+        due("2 of two", x.match(0, 0, 2), 2);
+        x.undo();
+        due("1 of one", x.explains(0, 0, 1, 1), 1);
+        due("the first", x.explains(0, 0, 1, 0), 1);
+        due("no such store, kind", x.explains(-1, 0, 1, 1), NONE);
+        due("no such store, kind", x.explains(0, -1, 1, 1), NONE);
+        due("no such quantity", x.explains(0, 0, -1, 1), NONE);
+        due("1 day", x.would(1, 3), 4);
+        x.limit(1, 5);
+        x.load(1, 0, 0, 1, 1, 0);
+        due("1 is missing", x.lacks(1), 1);
+        due("1 more", x.freed(1, 1), 1);
+        x = small();
+        x.rate(0, 0, 1);
+        x.limit(1, 1);
+        x.load(1, 0, 0, 2, 5, 0);
+        x.load(1, 0, 0, 1, 5, 1);
+        due("1 fits", x.best(1, 0), 0b10);
+        due("1 fits", x.best(1, 1), 1);
+        x.order(1, 1, 0, NONE);
+        x.order(1, 1, NONE, NONE);
+        x.use(0, 0, 7);
+        due("DUE of the first of two", x.count(10), 7);
+        due("shift to itself", x.shift(0, 1, 1), CANNOT);
+        due("LIMIT above what is FREE", x.limit(1, 8), 1);
+    }
+
+    /** An image of one book, laid over another that differs in all of it. */
+    private static void wholeImages() {
+        part = "23, all of it";
+        BondStores x = small();
+        x.allows(1, 0, 50);
+        x.allows(1, 1, 500);
+        x.rate(1, 0, 3);
+        x.rate(1, 7, 4);
+        x.stock(0, 1, 400);
+        x.days(2);
+        x.load(0, 1, 1, 200, 6, 8);
+        x.split(0, 50, 2);
+        x.arrive(0, 20, false, 0);
+        x.days(1);
+        x.arrive(1, 10, true, 2);
+        x.image(0);
+        String was = whole(x);
+        for (int i = 0; i < 3; i++) {
+            x.undo();
+        }
+        x.terms(0, 5);
+        x.terms(1, 0);
+        x.days(9);
+        x.limit(0, 3);
+        x.guarantor(77);
+        x.order(0, 2, 1, NONE);
+        x.store(2, NONE, NONE);
+        x.rate(1, 50, 9);
+        x.allows(1, 0, 1);
+        x.arrive(0, 7, true, 3);
+        x.load(1, 0, 0, 5, 5, 1);
+        x.load(0, 2, 0, 4, 3, 2);
+        Check.isTrue("it differs", !whole(x).equals(was));
+        x.image(1);
+        String then = whole(x);
+        due("back", x.back(0), 3);
+        Check.isTrue("as the image: " + whole(x) + " / " + was, whole(x).equals(was));
+        due("back again", x.back(1), 11);
+        Check.isTrue("as the other image", whole(x).equals(then));
+    }
+
+    private static String whole(BondStores x) {
+        StringBuilder text = new StringBuilder();
+        for (int i = 0; i < 12; i++) {
+            text.append(x.count(i)).append(' ');
+        }
+        text.append(x.count(13)).append(' ').append(x.count(14)).append('\n');
+        for (int g = 0; g < 4; g++) {
+            for (int what = 0; what < 4; what++) {
+                text.append(x.ofGuarantor(g, what)).append(' ').append(x.total(g, what)).append(' ');
+            }
+        }
+        for (int s = 0; s < 6; s++) {
+            for (int what = 0; what < 9; what++) {
+                text.append(x.ofStore(s, what)).append(' ');
+            }
+        }
+        text.append('\n');
+        for (int l = 0; l < 5; l++) {
+            for (int what = 0; what < 15; what++) {
+                text.append(x.ofLoad(l, what)).append(' ');
+            }
+            text.append(x.sums(l, 0)).append(' ').append(x.sums(l, 1)).append('\n');
+        }
+        for (int kind = 0; kind < 5; kind++) {
+            text.append(x.allowance(kind, 9999, 2)).append(' ').append(x.allowance(kind, 9999, 900));
+            for (int day = 0; day < 60; day++) {
+                text.append(' ').append(x.rateOn(kind, day));
+            }
+        }
+        return text.toString();
+    }
+
+    /** What is made anew where an undone one stood has nothing of that one. */
+    private static void freshPlaces() {
+        part = "new ones behind undo and back";
+        BondStores x = new BondStores();
+        x.image(0);
+        fillPlaces(x);
+        x.back(0);
+        x.guarantor(40);
+        due("HELD", x.ofGuarantor(0, 1), 0);
+        due("DUE", x.ofGuarantor(0, 2), 0);
+        due("DUE in all", x.total(0, 0), 0);
+        due("paid in all", x.total(0, 1), 0);
+        x.store(0, NONE, NONE);
+        x.store(NONE, NONE, NONE);
+        for (int kind = 0; kind < 5; kind++) {
+            due("STOCK", x.ofStore(0, kind), 0);
+        }
+        x.stock(0, 0, 10);
+        x.rate(0, 0, 9);
+        x.load(0, 1, 0, 5, 4, 3);
+        int[] want = {0, 0, 1, 0, 5, 4, 3, NONE, 0, 0, 0, 0, 0, 45, NONE};
+        for (int what = 0; what < want.length; what++) {
+            due("ofLoad(0, " + what + ")", x.ofLoad(0, what), want[what]);
+        }
+        due("HELD in all", x.sums(0, 0), 0);
+        due("RELEASED in all", x.sums(0, 1), 0);
+    }
+
+    private static void fillPlaces(BondStores x) {
+        x.guarantor(9000);
+        x.store(0, NONE, NONE);
+        x.store(0, NONE, NONE);
+        x.store(0, NONE, NONE);
+        for (int kind = 0; kind < 5; kind++) {
+            x.stock(0, kind, 500);
+        }
+        x.rate(0, 0, 10);
+        x.allows(0, 0, 99);
+        x.allows(0, 1, 999);
+        x.load(0, 1, 0, 300, 9, 5);
+        x.days(3);
+        x.arrive(0, 100, true, 1);
+        x.pay(0, 7);
+        x.load(0, 1, 0, 100, 9, 5);
+        x.split(1, 20, 2);
+    }
+
+    private static void fourGuarantors() {
+        part = "four guarantors";
+        BondStores x = new BondStores();
+        for (int i = 0; i < 4; i++) {
+            x.guarantor(1000);
+        }
+        x.store(1, NONE, NONE);
+        x.store(1, 2, 3);
+        x.store(NONE, NONE, NONE);
+        x.stock(0, 0, 900);
+        x.rate(0, 0, 1);
+        x.load(0, 1, 0, 300, 5, 0);
+        x.shift(0, 1, 3);
+        due("HELD of the last number", x.ofGuarantor(3, 1), 300);
+        due("FREE of it", x.ofGuarantor(3, 3), 700);
+        due("same one, enough FREE", x.shift(0, 3, 3), CANNOT);
+        x.rate(0, 5, 2);
+        due("more of the order", x.held(0, 1), 300);
+        x.split(0, 100, 2);
+        due("the last number is handed over first", x.held(1, 3), 200);
+        due("the order's is kept", x.held(0, 1), 300);
+        x.arrive(0, 40, false, 0);
+        due("the last number is released first", x.held(0, 3), 20);
+        x.shift(0, 1, 0);
+        x.arrive(0, 20, false, 0);
+        due("number 3 ahead of number 0", x.held(0, 3), 0);
+        due("then number 0", x.held(0, 0), 280);
+        x.order(0, 2, NONE, NONE);
+        x.arrive(0, 0, true, 0);
+        due("DUE of one that FROM has not", x.ofGuarantor(0, 2), 140);
+        due("all released", x.ofGuarantor(0, 1), 0);
+    }
+
+    private static void ratesWithoutAFirst() {
+        part = "rates told from a later day";
+        BondStores x = small();
+        x.rate(1, 4, 6);
+        x.stock(0, 1, 100);
+        x.load(0, 1, 1, 10, 9, 0);
+        due("none yet", x.rateOn(1, 3), 0);
+        due("NEED of days ahead", x.ofLoad(0, 13), 60);
+        x.days(6);
+        due("greatest", x.dayOf(0, 1), 4);
+        due("least", x.dayOf(0, 0), 0);
+        due("late is the first of all", x.listed(2, 0), NONE);
+        x.days(4);
+        due("late is the first of all", x.listed(2, 0), 0);
+        x.rate(2, 30, 6);
+        x.rate(2, 60, 0);
+        due("now, ahead of any", x.cheapest(2, 9, 0), 10);
+        x.rate(3, 11, 6);
+        x.days(1);
+        x.rate(3, 40, 2);
+        due("a told day", x.cheapest(3, 90, 0), 40);
+    }
+
+    private static void fullRates() {
+        part = "12 rates";
+        BondStores x = small();
+        for (int i = 1; i <= 11; i++) {
+            x.rate(0, 10 * i, i % 2);
+        }
+        due("full", x.rate(0, 200, 1), FULL);
+        due("the first in place", x.rate(0, 0, 1), 2);
+        due("the last in place", x.rate(0, 110, 0), 1);
+        x.load(1, 0, 0, 400, 90, 0);
+        x.days(60);
+        x.extend(0, 90);
+        due("not to be held, behind all the others", x.rate(0, 111, 2), CANNOT);
+        due("room alone", x.rate(0, 181, 2), FULL);
+        x.image(0);
+        x.rate(0, 110, 1);
+        x.rate(0, 100, 1);
+        x.back(0);
+        due("the last again", x.rateOn(0, 110), 0);
+        x = small();
+        for (int i = 1; i <= 11; i++) {
+            x.rate(0, i, i);
+        }
+        x.undo();
+        due("one less by undo", x.rate(0, 99, 5), 10);
+        due("full then", x.rate(0, 98, 5), FULL);
+        due("11 was undone", x.rateOn(0, 11), 10);
     }
 }
