@@ -54,6 +54,7 @@ public final class PromiseTest {
         fourGuarantors();
         ratesWithoutAFirst();
         fullRates();
+        fortyLoads();
         Check.end("PromiseTest");
     }
 
@@ -1139,6 +1140,24 @@ public final class PromiseTest {
         due("what", y.best(1, -1), NONE);
         y.order(1, 1, 0, NONE);
         due("not alone then", y.best(1, 1), 0);
+        y = small();
+        y.load(1, 0, 0, 300, 5, 1);
+        y.load(1, 0, 0, 150, 5, 2);
+        due("the second alone", y.best(1, 0), 0b10);
+        y.rate(0, 2, 3);
+        due("by NEEDS of now", y.best(1, 1), 450);
+        y = small();
+        y.rate(0, 1, 999);
+        y.load(1, 0, 0, 1, 90, 2);
+        y.load(1, 0, 0, 2, 90, 1);
+        y.limit(1, 998);
+        due("none fits", y.best(1, 0), 0);
+        y.load(2, 0, 0, 1, 1, 0);
+        y.stock(2, 0, 5);
+        y.load(2, 0, 0, 5, 5, 0);
+        y.limit(1, 2998);
+        due("both fit behind one that can't go", y.best(1, 0), 0b11);
+        due("both together", y.best(1, 1), 2997);
     }
 
     private static void explanations() {
@@ -1352,42 +1371,58 @@ public final class PromiseTest {
     /** An image of one book, laid over another that differs in all of it. */
     private static void wholeImages() {
         part = "23, all of it";
-        BondStores x = small();
-        x.allows(1, 0, 50);
-        x.allows(1, 1, 500);
-        x.rate(1, 0, 3);
-        x.rate(1, 7, 4);
-        x.stock(0, 1, 400);
-        x.days(2);
-        x.load(0, 1, 1, 200, 6, 8);
-        x.split(0, 50, 2);
-        x.arrive(0, 20, false, 0);
-        x.days(1);
-        x.arrive(1, 10, true, 2);
+        BondStores x = new BondStores();
         x.image(0);
-        String was = whole(x);
-        for (int i = 0; i < 3; i++) {
-            x.undo();
-        }
-        x.terms(0, 5);
-        x.terms(1, 0);
-        x.days(9);
-        x.limit(0, 3);
-        x.guarantor(77);
-        x.order(0, 2, 1, NONE);
-        x.store(2, NONE, NONE);
-        x.rate(1, 50, 9);
-        x.allows(1, 0, 1);
-        x.arrive(0, 7, true, 3);
-        x.load(1, 0, 0, 5, 5, 1);
-        x.load(0, 2, 0, 4, 3, 2);
-        Check.isTrue("it differs", !whole(x).equals(was));
+        fillBook(x, 0);
         x.image(1);
-        String then = whole(x);
-        due("back", x.back(0), 3);
-        Check.isTrue("as the image: " + whole(x) + " / " + was, whole(x).equals(was));
-        due("back again", x.back(1), 11);
-        Check.isTrue("as the other image", whole(x).equals(then));
+        String first = whole(x);
+        x.back(0);
+        fillBook(x, 1);
+        x.image(0);
+        String second = whole(x);
+        due("not kept", x.back(7), BAD);
+        due("back", x.back(1), 5);
+        due("status of back", x.status(), 0);
+        Check.isTrue("as the first: " + whole(x) + " / " + first, whole(x).equals(first));
+        due("back", x.back(0), 5);
+        Check.isTrue("as the second: " + whole(x) + " / " + second, whole(x).equals(second));
+    }
+
+    /** Books that have hardly a number in common: d is 0 or 1. */
+    private static void fillBook(BondStores x, int d) {
+        for (int g = 0; g <= 2 + d; g++) {
+            x.guarantor(4000 + 10 * d + g);
+        }
+        for (int s = 0; s <= 2 + d; s++) {
+            x.store((s + d) % 3, (s + 1 + d) % 3, NONE);
+            x.stock(s, 1 + d, 2000 + 100 * d + s);
+        }
+        x.terms(0, 20 + d);
+        x.terms(1, d);
+        x.allows(1 + d, 0, 70 + d);
+        x.allows(1 + d, 1, 700 + d);
+        x.rate(1 + d, 0, 3 + d);
+        for (int i = 0; i < 12; i++) {
+            x.rate(4, 3 * i + d + 1, 100 * d + i);
+        }
+        x.days(1 + d);
+        x.load(d, 1 + d, 1 + d, 200 + d, 6 + d, 7 + d);
+        x.split(0, 50 + d, d == 0 ? 2 : 0);
+        x.shift(0, d, 2);
+        x.arrive(0, 20 + d, false, 0);
+        x.load(1 + d, d, 1 + d, 300 + d, 16 + d, 1 + d);
+        x.arrive(2, 10 + d, true, 1 + d);
+        x.pay(1 + d, 11 + d);
+        x.days(3);
+        x.arrive(1, 10 + 30 * d, true, 2 + d);
+        if (d == 1) {
+            x.load(1, 0, 2, 9, 5, 0);
+        } else {
+            x.load(0, 1, 1, 40, 6, 7);
+            x.split(3, 7, 2);
+            x.days(1);
+            x.arrive(3, 3, true, 4);
+        }
     }
 
     private static String whole(BondStores x) {
@@ -1409,7 +1444,7 @@ public final class PromiseTest {
         text.append('\n');
         for (int l = 0; l < 5; l++) {
             for (int what = 0; what < 15; what++) {
-                text.append(x.ofLoad(l, what)).append(' ');
+                text.append(x.ofLoad(l, what)).append(' ').append(x.held(l, what)).append(' ');
             }
             text.append(x.sums(l, 0)).append(' ').append(x.sums(l, 1)).append('\n');
         }
@@ -1448,6 +1483,15 @@ public final class PromiseTest {
         }
         due("HELD in all", x.sums(0, 0), 0);
         due("RELEASED in all", x.sums(0, 1), 0);
+        x = small();
+        x.load(0, 1, 0, 100, 5, 0);
+        x.undo();
+        x.load(2, 1, 0, 1, 5, 0);
+        x.stock(2, 0, 30);
+        x.load(2, 1, 0, 30, 5, 0);
+        due("it waits", x.ofLoad(0, 0), 0);
+        due("HELD", x.ofLoad(0, 9), 0);
+        due("HELD", x.held(0, 0), 0);
     }
 
     private static void fillPlaces(BondStores x) {
@@ -1552,5 +1596,54 @@ public final class PromiseTest {
         due("one less by undo", x.rate(0, 99, 5), 10);
         due("full then", x.rate(0, 98, 5), FULL);
         due("11 was undone", x.rateOn(0, 11), 10);
+    }
+
+    /** Every call that looks at all LOADS, with all places taken. */
+    private static void fortyLoads() {
+        part = "40 loads, 4 guarantors, 6 stores";
+        BondStores x = new BondStores();
+        for (int i = 0; i < 4; i++) {
+            x.guarantor(i == 3 ? 9 : 1000);
+        }
+        x.store(0, 1, 2);
+        x.store(0, 1, 2);
+        for (int i = 0; i < 4; i++) {
+            x.store(3, NONE, NONE);
+        }
+        x.stock(0, 0, 1000);
+        x.stock(5, 0, 1000);
+        x.rate(0, 0, 1);
+        for (int i = 0; i < 20; i++) {
+            x.load(0, 1, 0, 1 + i, 40 - i, 0);
+        }
+        for (int i = 20; i < 40; i++) {
+            x.load(5, 1, 0, 10 + i, 9, 9 - i % 10);
+        }
+        due("half of them go", x.count(5), 20);
+        due("half of them wait", x.count(4), 20);
+        due("last that waits", x.listed(0, 19), 30);
+        due("last that goes", x.listed(1, 19), 0);
+        due("none late", x.listed(2, 0), NONE);
+        due("how many are held for", x.behind(0, 0), 20);
+        due("held of all", x.count(9), 210);
+        due("explained by the first three", x.explains(1, 0, 20 + 19 + 18, 0), 0b111);
+        due("explained by the twelfth", x.explains(1, 0, 9, 0), 0b100000000000);
+        due("the thirteenth is not looked at", x.explains(1, 0, 8, 0), NONE);
+        due("best of the first 10", x.best(3, 1), 0);
+        due("freed", x.freed(3, 9999999), 20);
+        due("lacks", x.lacks(3), 39 - 9);
+        due("would be lost", x.would(90, 1), 20);
+        due("rate", x.rate(0, 35, 2), 1);
+        due("held of all", x.count(9), 210 + 1 + 2 + 3 + 4 + 5 + 6);
+        due("matched", x.match(1, 0, 209), 19);
+        due("one is left", x.ofLoad(0, 13), 2);
+        due("the last one", x.match(1, 0, 1), 1);
+        x.limit(3, 9999999);
+        due("the others go", x.count(5), 20);
+        due("best of none", x.best(3, 0), 0);
+        due("no room", x.split(39, 1, 2), FULL);
+        due("lost", x.days(90), 20);
+        due("due of all", x.count(10), 790);
+        due("due in all", x.total(NONE, 0), 790);
     }
 }
