@@ -272,7 +272,7 @@ public final class BondStores {
 
     /** Promise 13. */
     public int arrive(int load, int quantity, boolean last, int loss) {
-        if (isOutside(quantity, 0, MOST_QUANTITY) || loss > LAST_DAY || last && loss < 0) {
+        if (isOutside(quantity, 0, MOST_QUANTITY) || last && isOutside(loss, 0, LAST_DAY)) {
             return refused(BAD_NUMBER);
         }
         if (!now.hasLoad(load)) {

@@ -26,6 +26,8 @@ public final class PromiseTest {
         turns();
         withdrawals();
         arrivals();
+        arrivalsWithNoDayAsked();
+        arrivalsWithADayAsked();
         lastArrivals();
         matches();
         splits();
@@ -469,6 +471,52 @@ public final class PromiseTest {
         due("stock of TO just full", x.arrive(0, 699, false, 0), 1);
         due("stock of TO too full", x.arrive(0, 1, true, 0), CANNOT);
         due("nothing more comes", x.arrive(0, 0, true, 0), 1);
+    }
+
+    /** Issue 5: what is not asked can be no number that can't be, above 9,999 as little as below 0. */
+    private static void arrivalsWithNoDayAsked() {
+        part = "13, no day asked";
+        int[] days = {Integer.MIN_VALUE, -1, 0, 9999, 10000, 16383, Integer.MAX_VALUE};
+        for (int day : days) {
+            BondStores x = new BondStores();
+            due("no load, " + day, x.arrive(0, 0, false, day), MISSING);
+            due("status, " + day, x.status(), MISSING);
+            due("none by -1, " + day, x.count(15), 0);
+            due("a bad quantity all the same, " + day, x.arrive(0, -1, false, day), BAD);
+            due("a bad quantity all the same, " + day, x.arrive(0, 10000, false, day), BAD);
+            x = small();
+            x.load(0, 1, 0, 600, 5, 0);
+            x.load(1, 0, 0, 900, 5, 0);
+            due("it waits, " + day, x.arrive(1, 1, false, day), CANNOT);
+            due("nothing, " + day, x.arrive(0, 0, false, day), CANNOT);
+            due("too much, " + day, x.arrive(0, 601, false, day), CANNOT);
+            due("a part, " + day, x.arrive(0, 200, false, day), 400);
+            due("goes on, " + day, x.ofLoad(0, 0), 1);
+            due("the rest, " + day, x.arrive(0, 400, false, day), 0);
+            due("ended, " + day, x.ofLoad(0, 0), 2);
+            due("no duty, " + day, x.ofLoad(0, 10), 0);
+            due("all released, " + day, x.sums(0, 1), 1200);
+        }
+    }
+
+    /** Asked of one that is told as the last, though nothing of it is short. */
+    private static void arrivalsWithADayAsked() {
+        part = "13, a day asked";
+        BondStores x = new BondStores();
+        int[] bad = {Integer.MIN_VALUE, -1, 10000, 16383, Integer.MAX_VALUE};
+        for (int day : bad) {
+            due("ahead of no load, " + day, x.arrive(0, 0, true, day), BAD);
+        }
+        due("by -1", x.count(15), bad.length);
+        due("least day, no load", x.arrive(0, 0, true, 0), MISSING);
+        due("last day, no load", x.arrive(0, 0, true, 9999), MISSING);
+        x = small();
+        x.load(0, 1, 0, 600, 5, 0);
+        for (int day : bad) {
+            due("all comes, " + day, x.arrive(0, 600, true, day), BAD);
+        }
+        due("all comes, a day behind now", x.arrive(0, 600, true, 1), CANNOT);
+        due("all comes", x.arrive(0, 600, true, 0), 0);
     }
 
     private static void lastArrivals() {
@@ -1340,7 +1388,7 @@ public final class PromiseTest {
         x.load(1, 0, 0, 1, 1, 0);
         due("no day of these is now", x.arrive(0, 1, true, 9999), CANNOT);
         due("a day that is not asked", x.arrive(0, 2, false, 9999), CANNOT);
-        due("a day above, though it is not asked", x.arrive(0, 1, false, 10000), BAD);
+        due("a day above that is not asked", x.arrive(0, 2, false, 10000), CANNOT);
         due("2 of two", x.match(0, 0, 2), 2);
         x.undo();
         due("1 of one", x.explains(0, 0, 1, 1), 1);

@@ -167,7 +167,7 @@ public final class SideBySideTest {
         int begun = Math.max(0, slow.ofLoad(load, 7));
         int loss = begun + pick(Math.max(1, now() - begun + 1));
         if (pick(6) == 0) {
-            loss = new int[] {begun - 1, now() + 1, NO_DAY, 10000, slow.ofLoad(load, 7) + slow.ofLoad(load, 5) + 1}[pick(5)];
+            loss = new int[] {begun - 1, now() + 1, NO_DAY, 10000, Integer.MAX_VALUE, slow.ofLoad(load, 7) + slow.ofLoad(load, 5) + 1}[pick(6)];
         }
         return new Object[] {load, quantity, pick(2) == 0, loss};
     }

@@ -359,8 +359,7 @@ public final class SlowBook {
 
     public int arrive(int load, int quantity, boolean last, int loss) {
         if (!in(quantity, 0, 9999)) return no(-1);
-        if (loss > 9999) return no(-1);
-        if (last && loss < 0) return no(-1);
+        if (last && !in(loss, 0, 9999)) return no(-1);
         if (!l(load)) return no(-2);
         Goods l = w.loads.get(load);
         if (!l.goes()) return no(-4);
