@@ -51,7 +51,6 @@ public final class PromiseTest {
         daysOfRates();
         countsAndStatus();
         leastNumbers();
-        wholeImages();
         freshPlaces();
         fourGuarantors();
         ratesWithoutAFirst();
@@ -1414,95 +1413,6 @@ public final class PromiseTest {
         due("DUE of the first of two", x.count(10), 7);
         due("shift to itself", x.shift(0, 1, 1), CANNOT);
         due("LIMIT above what is FREE", x.limit(1, 8), 1);
-    }
-
-    /** An image of one book, laid over another that differs in all of it. */
-    private static void wholeImages() {
-        part = "23, all of it";
-        BondStores x = new BondStores();
-        x.image(0);
-        fillBook(x, 0);
-        x.image(1);
-        String first = whole(x);
-        x.back(0);
-        fillBook(x, 1);
-        x.image(0);
-        String second = whole(x);
-        due("not kept", x.back(7), BAD);
-        due("back", x.back(1), 5);
-        due("status of back", x.status(), 0);
-        Check.isTrue("as the first: " + whole(x) + " / " + first, whole(x).equals(first));
-        due("back", x.back(0), 5);
-        Check.isTrue("as the second: " + whole(x) + " / " + second, whole(x).equals(second));
-    }
-
-    /** Books that have hardly a number in common: d is 0 or 1. */
-    private static void fillBook(BondStores x, int d) {
-        for (int g = 0; g <= 2 + d; g++) {
-            x.guarantor(4000 + 10 * d + g);
-        }
-        for (int s = 0; s <= 2 + d; s++) {
-            x.store((s + d) % 3, (s + 1 + d) % 3, NONE);
-            x.stock(s, 1 + d, 2000 + 100 * d + s);
-        }
-        x.terms(0, 20 + d);
-        x.terms(1, d);
-        x.allows(1 + d, 0, 70 + d);
-        x.allows(1 + d, 1, 700 + d);
-        x.rate(1 + d, 0, 3 + d);
-        for (int i = 0; i < 12; i++) {
-            x.rate(4, 3 * i + d + 1, 100 * d + i);
-        }
-        x.days(1 + d);
-        x.load(d, 1 + d, 1 + d, 200 + d, 6 + d, 7 + d);
-        x.split(0, 50 + d, d == 0 ? 2 : 0);
-        x.shift(0, d, 2);
-        x.arrive(0, 20 + d, false, 0);
-        x.load(1 + d, d, 1 + d, 300 + d, 16 + d, 1 + d);
-        x.arrive(2, 10 + d, true, 1 + d);
-        x.pay(1 + d, 11 + d);
-        x.days(3);
-        x.arrive(1, 10 + 30 * d, true, 2 + d);
-        if (d == 1) {
-            x.load(1, 0, 2, 9, 5, 0);
-        } else {
-            x.load(0, 1, 1, 40, 6, 7);
-            x.split(3, 7, 2);
-            x.days(1);
-            x.arrive(3, 3, true, 4);
-        }
-    }
-
-    private static String whole(BondStores x) {
-        StringBuilder text = new StringBuilder();
-        for (int i = 0; i < 12; i++) {
-            text.append(x.count(i)).append(' ');
-        }
-        text.append(x.count(13)).append(' ').append(x.count(14)).append('\n');
-        for (int g = 0; g < 4; g++) {
-            for (int what = 0; what < 4; what++) {
-                text.append(x.ofGuarantor(g, what)).append(' ').append(x.total(g, what)).append(' ');
-            }
-        }
-        for (int s = 0; s < 6; s++) {
-            for (int what = 0; what < 9; what++) {
-                text.append(x.ofStore(s, what)).append(' ');
-            }
-        }
-        text.append('\n');
-        for (int l = 0; l < 5; l++) {
-            for (int what = 0; what < 15; what++) {
-                text.append(x.ofLoad(l, what)).append(' ').append(x.held(l, what)).append(' ');
-            }
-            text.append(x.sums(l, 0)).append(' ').append(x.sums(l, 1)).append('\n');
-        }
-        for (int kind = 0; kind < 5; kind++) {
-            text.append(x.allowance(kind, 9999, 2)).append(' ').append(x.allowance(kind, 9999, 900));
-            for (int day = 0; day < 60; day++) {
-                text.append(' ').append(x.rateOn(kind, day));
-            }
-        }
-        return text.toString();
     }
 
     /** What is made anew where an undone one stood has nothing of that one. */

@@ -1,22 +1,32 @@
 import java.lang.reflect.Method;
+import java.util.ArrayList;
 import java.util.Arrays;
+import java.util.List;
 import java.util.Map;
 import java.util.Random;
+import java.util.Set;
 import java.util.TreeMap;
 
-/** Long runs of calls, drawn by fixed seeds, on BondStores and on SlowBook: all answers are alike. */
+/**
+ * Long runs of calls, drawn by fixed seeds, on BondStores and on SlowBook: all answers are alike. No
+ * BondStores gets more than its 512 calls: a new one is then brought to the same state by the same acts.
+ */
 public final class SideBySideTest {
     private static final String[] ACTS = {
         "guarantor", "limit", "pay", "store", "order", "stock", "allows", "rate", "terms", "load",
         "withdraw", "arrive", "match", "split", "use", "shift", "extend", "divert", "days", "undo",
         "image", "back"};
+    private static final Set<String> ACT_NAMES = Set.of(ACTS);
     private static final int[] WEIGHTS = {
         1, 6, 6, 2, 4, 8, 4, 14, 5, 60, 5, 26, 9, 14, 6, 12, 9, 7, 16, 5, 2, 1};
+    private static final int LIFE = 512;
     private static final Map<String, Method> FAST = methodsOf(BondStores.class);
     private static final Map<String, Method> SLOW = methodsOf(SlowBook.class);
 
     private final Random dice;
-    private final BondStores fast = new BondStores();
+    private BondStores fast = new BondStores();
+    private int used;
+    private final List<Object[]> acts = new ArrayList<>();
     private final SlowBook slow = new SlowBook();
     private final String run;
     private final int money;
@@ -248,14 +258,28 @@ public final class SideBySideTest {
     }
 
     private long both(String name, Object... args) throws Exception {
+        if (used == LIFE) {
+            renew();
+        }
+        used++;
         long got = ((Number) FAST.get(name).invoke(fast, args)).longValue();
         long want = ((Number) SLOW.get(name).invoke(slow, args)).longValue();
         String call = name + Arrays.toString(args);
-        if (Arrays.asList(ACTS).contains(name)) {
+        if (ACT_NAMES.contains(name)) {
+            acts.add(new Object[] {name, args});
             told.append(call).append(" -> ").append(want).append('\n');
         }
         Check.due(run + ": " + call, got, want);
         return want;
+    }
+
+    private void renew() throws Exception {
+        fast = new BondStores();
+        for (Object[] act : acts) {
+            FAST.get((String) act[0]).invoke(fast, (Object[]) act[1]);
+        }
+        used = acts.size();
+        Check.isTrue(run + ": room is left to ask in", used < LIFE);
     }
 
     private int pick(int n) { return dice.nextInt(n); }
