@@ -152,14 +152,9 @@ public final class ActsTest {
         t.refused(BAD, x -> x.store(0, 1, 3)).refused(BAD, x -> x.store(0, 1, -2)).refused(BAD, x -> x.store(2, 2, 1));
         t.act(0, x -> x.store(2, 0, 1)).act(1, x -> x.store(NONE, 2, 0)).act(2, x -> x.store(1, NONE, 0));
         t.act(3, x -> x.store(NONE, NONE, 1)).act(4, x -> x.store(NONE, NONE, NONE));
-        int[][] want = {{2, 0, 1}, {2, 0, NONE}, {1, 0, NONE}, {1, NONE, NONE}, {NONE, NONE, NONE}};
-        for (int s = 0; s < want.length; s++) {
-            for (int i = 0; i < 3; i++) {
-                int number = s;
-                int place = 6 + i;
-                t.reads(want[s][i], x -> x.ofStore(number, place));
-            }
-        }
+        t.readsEach((x, v) -> x.ofStore(v, 6), 2, 2, 1, 1, NONE);
+        t.readsEach((x, v) -> x.ofStore(v, 7), 0, 0, 0, NONE, NONE);
+        t.readsEach((x, v) -> x.ofStore(v, 8), 1, NONE, NONE, NONE, NONE);
         t.act(5, x -> x.store(0, NONE, NONE)).refused(FULL, x -> x.store(0, 1, 2))
             .refused(FULL, x -> x.store(NONE, NONE, NONE));
         t.refused(BAD, x -> x.store(3, NONE, NONE)).refused(BAD, x -> x.store(1, 1, NONE)).reads(6, x -> x.count(2));
@@ -750,7 +745,8 @@ public final class ActsTest {
 
     /** The order is looked at whole: those that it has not stand behind it as they did. */
     private static void undoneOrder() {
-        Trial t = new Trial("21. undo: of order, GUARANTORS that it has not among them").withEach(0, 3, (x, i) -> x.guarantor(100));
+        Trial t = new Trial("21. undo: of order, GUARANTORS that it has not among them")
+            .withEach(0, 3, (x, i) -> x.guarantor(100));
         t.with(x -> x.store(0, 1, 2), x -> x.store(NONE, NONE, NONE), x -> x.rate(0, 0, 1), x -> x.stock(0, 0, 300));
         t.with(x -> x.load(0, 1, 0, 300, 5, 0), x -> x.shift(0, 1, 3), x -> x.order(0, 3, 1, 2)).act(4, x -> x.undo());
         t.with(x -> x.arrive(0, 1, false, 0)).reads(99, x -> x.held(0, 3)).reads(100, x -> x.held(0, 2));
@@ -759,29 +755,21 @@ public final class ActsTest {
 
     /** A place that an undone LOAD had holds nothing of it, of no GUARANTOR. */
     private static void placesBehindUndo() {
-        Trial t = new Trial("21. undo: of a LOAD, then another one in its place").withEach(0, 3, (x, i) -> x.guarantor(100));
-        t.with(x -> x.store(0, 1, 2), x -> x.store(NONE, NONE, NONE), x -> x.store(3, NONE, NONE), x -> x.rate(0, 0, 1));
+        Trial t = new Trial("21. undo: of a LOAD, then another one in its place")
+            .withEach(0, 3, (x, i) -> x.guarantor(100));
+        t.with(x -> x.store(0, 1, 2), x -> x.store(NONE, NONE, NONE), x -> x.store(3, NONE, NONE),
+            x -> x.rate(0, 0, 1));
         t.with(x -> x.stock(0, 0, 300), x -> x.stock(2, 0, 900), x -> x.allows(0, 0, 99), x -> x.allows(0, 1, 99));
         t.with(x -> x.load(0, 1, 0, 300, 5, 0), x -> x.split(0, 90, 2), x -> x.split(0, 70, 2), x -> x.shift(1, 2, 3));
         t.with(x -> x.days(3), x -> x.arrive(1, 50, false, 0), x -> x.arrive(1, 9, true, 1));
         t.withEach(1, 6, (x, i) -> x.undo()).with(x -> x.load(2, 1, 0, 101, 7, 3), x -> x.load(2, 0, 0, 100, 7, 2));
-        int[][] want = {{0, 2, 1, 0, 101, 7, 3, NONE, 0, 0, 0, 0, 0, 101, NONE},
-            {1, 2, 0, 0, 100, 7, 2, 0, 0, 100, 0, 0, 0, 100, NONE}};
-        for (int l = 0; l < want.length; l++) {
-            for (int w = 0; w < want[l].length; w++) {
-                int load = l + 1;
-                int what = w;
-                t.reads(want[l][w], x -> x.ofLoad(load, what));
-            }
-            for (int g = 0; g < 4; g++) {
-                int load = l + 1;
-                int guarantor = g;
-                t.reads(l == 1 && g == 3 ? 100 : 0, x -> x.held(load, guarantor));
-            }
-        }
+        t.readsEach((x, v) -> x.ofLoad(1, v), 0, 2, 1, 0, 101, 7, 3, NONE, 0, 0, 0, 0, 0, 101, NONE);
+        t.readsEach((x, v) -> x.ofLoad(2, v), 1, 2, 0, 0, 100, 7, 2, 0, 0, 100, 0, 0, 0, 100, NONE);
+        t.readsEach((x, v) -> x.held(1, v), 0, 0, 0, 0).readsEach((x, v) -> x.held(2, v), 0, 0, 0, 100);
         t.reads(0, x -> x.sums(1, 0)).reads(0, x -> x.sums(1, 1)).reads(100, x -> x.sums(2, 0));
         t.with(x -> x.undo(), x -> x.undo(), x -> x.load(2, 1, 0, 100, 7, 3)).reads(100, x -> x.held(1, 3));
-        t.with(x -> x.undo(), x -> x.load(2, 1, 0, 101, 7, 3)).reads(0, x -> x.held(1, 3)).reads(0, x -> x.ofLoad(1, 9));
+        t.with(x -> x.undo(), x -> x.load(2, 1, 0, 101, 7, 3)).reads(0, x -> x.held(1, 3))
+            .reads(0, x -> x.ofLoad(1, 9));
     }
 
     private static void undone(Trial t, int number, Trial.Call act) {

@@ -102,12 +102,10 @@ public final class ReadingsTest {
         Trial t = Trial.small("24. ofGuarantor: LIMIT (what 0), HELD (1), DUE (2), FREE (3). NONE for others");
         t.with(x -> x.load(0, 1, 0, 100, 5, 0), x -> x.use(0, 0, 30));
         t.answersWithin(0, 1, (x, v) -> x.ofGuarantor(v, 0)).answersWithin(0, 3, (x, v) -> x.ofGuarantor(1, v));
-        int[] want = {1000, 200, 60, 740};
-        for (int w = 0; w < want.length; w++) {
-            int what = w;
-            t.reads(want[w], x -> x.ofGuarantor(0, what)).reads(NONE, x -> x.ofGuarantor(2, what))
-                .reads(NONE, x -> x.ofGuarantor(NONE, what));
-        }
+        t.readsEach((x, what) -> x.ofGuarantor(0, what), 1000, 200, 60, 740, NONE);
+        t.readsEach((x, what) -> x.ofGuarantor(1, what), 500, 0, 0, 500, NONE);
+        t.readsEach((x, what) -> x.ofGuarantor(2, what), NONE, NONE, NONE, NONE, NONE);
+        t.readsEach((x, what) -> x.ofGuarantor(NONE, what), NONE, NONE, NONE, NONE, NONE);
         Trial.full("24. ofGuarantor, all places taken").answersWithin(0, 3, (x, v) -> x.ofGuarantor(v, 3));
     }
 
@@ -145,15 +143,9 @@ public final class ReadingsTest {
             .withEach(0, 4, (x, i) -> x.stock(2, i, 11 + i));
         t.answersWithin(0, 8, (x, v) -> x.ofStore(2, v)).answersWithin(0, 2, (x, v) -> x.ofStore(v, 0))
             .answersWithin(0, 2, (x, v) -> x.ofStore(v, 5));
-        int[][] want = {{4900, 0, 0, 0, 0, 1300, 0, 1, NONE}, {5000, 0, 0, 0, 0, 500, 1, NONE, NONE},
-            {11, 12, 13, 14, 15, 1330, 2, 0, 1}};
-        for (int s = 0; s < 3; s++) {
-            for (int w = 0; w < 9; w++) {
-                int store = s;
-                int what = w;
-                t.reads(want[s][w], x -> x.ofStore(store, what));
-            }
-        }
+        t.readsEach((x, what) -> x.ofStore(0, what), 4900, 0, 0, 0, 0, 1300, 0, 1, NONE, NONE);
+        t.readsEach((x, what) -> x.ofStore(1, what), 5000, 0, 0, 0, 0, 500, 1, NONE, NONE, NONE);
+        t.readsEach((x, what) -> x.ofStore(2, what), 11, 12, 13, 14, 15, 1330, 2, 0, 1, NONE);
         Trial.full("26. ofStore, all places taken").answersWithin(0, 5, (x, v) -> x.ofStore(v, 5))
             .reads(0, x -> x.ofStore(5, 5))
             .reads(NONE, x -> x.ofStore(5, 6)).reads(26600, x -> x.ofStore(4, 5)).reads(1, x -> x.ofStore(4, 8))
@@ -163,17 +155,11 @@ public final class ReadingsTest {
     private static void ofLoad() {
         Trial t = Trial.states("27. ofLoad").answersWithin(0, 4, (x, v) -> x.ofLoad(v, 0))
             .answersWithin(0, 13, (x, v) -> x.ofLoad(1, v));
-        int[][] want = {{0, 1, 0, 0, 300, 5, 5, NONE, 0, 0, 0, 0, 0, 600, NONE},
-            {1, 0, 1, 0, 100, 90, 6, 0, 0, 200, 0, 0, 0, 200, NONE},
-            {2, 0, 1, 0, 10, 5, 7, 0, 10, 0, 0, 0, 0, 0, NONE}, {3, 0, 1, 0, 10, 1, 8, 0, 0, 0, 20, 10, 0, 0, NONE},
-            {4, 1, 0, 0, 400, 5, 9, NONE, 0, 0, 0, 0, 0, 0, NONE}};
-        for (int l = 0; l < want.length; l++) {
-            for (int w = 0; w < want[l].length; w++) {
-                int load = l;
-                int what = w;
-                t.reads(want[l][w], x -> x.ofLoad(load, what));
-            }
-        }
+        t.readsEach((x, what) -> x.ofLoad(0, what), 0, 1, 0, 0, 300, 5, 5, NONE, 0, 0, 0, 0, 0, 600, NONE, NONE);
+        t.readsEach((x, what) -> x.ofLoad(1, what), 1, 0, 1, 0, 100, 90, 6, 0, 0, 200, 0, 0, 0, 200, NONE, NONE);
+        t.readsEach((x, what) -> x.ofLoad(2, what), 2, 0, 1, 0, 10, 5, 7, 0, 10, 0, 0, 0, 0, 0, NONE, NONE);
+        t.readsEach((x, what) -> x.ofLoad(3, what), 3, 0, 1, 0, 10, 1, 8, 0, 0, 0, 20, 10, 0, 0, NONE, NONE);
+        t.readsEach((x, what) -> x.ofLoad(4, what), 4, 1, 0, 0, 400, 5, 9, NONE, 0, 0, 0, 0, 0, 0, NONE, NONE);
         t.with(x -> x.split(1, 40, 2)).answersWithin(0, 14, (x, v) -> x.ofLoad(5, v)).reads(1, x -> x.ofLoad(5, 14))
             .reads(NONE, x -> x.ofLoad(1, 14));
         Trial.full("27. ofLoad, all places taken").answersWithin(0, 39, (x, v) -> x.ofLoad(v, 4))
@@ -183,11 +169,7 @@ public final class ReadingsTest {
     private static void ofLoadThatWaits() {
         Trial t = Trial.small("27. ofLoad: a LOAD of KIND 4, RANK 9")
             .with(x -> x.stock(1, 4, 9999), x -> x.rate(4, 0, 1), x -> x.load(1, 2, 4, 9999, 90, 9));
-        int[] want = {0, 1, 2, 4, 9999, 90, 9, NONE, 0, 0, 0, 0, 0, 9999, NONE};
-        for (int w = 0; w < want.length; w++) {
-            int what = w;
-            t.reads(want[w], x -> x.ofLoad(0, what));
-        }
+        t.readsEach((x, what) -> x.ofLoad(0, what), 0, 1, 2, 4, 9999, 90, 9, NONE, 0, 0, 0, 0, 0, 9999, NONE, NONE);
         t.with(x -> x.days(3), x -> x.limit(1, 9999)).reads(3, x -> x.ofLoad(0, 7)).reads(9999, x -> x.ofLoad(0, 9))
             .reads(1, x -> x.ofLoad(0, 0));
     }
@@ -260,10 +242,7 @@ public final class ReadingsTest {
 
     /** All places of one list, none ahead of the first or behind the last. */
     private static void row(Trial t, int what, int... want) {
-        for (int place = 0; place < want.length; place++) {
-            int i = place;
-            t.reads(want[i], x -> x.listed(what, i));
-        }
+        t.readsEach((x, i) -> x.listed(what, i), want);
         for (int i : new int[] {-1, want.length, Integer.MIN_VALUE, Integer.MAX_VALUE}) {
             t.reads(NONE, x -> x.listed(what, i));
         }
@@ -541,6 +520,10 @@ public final class ReadingsTest {
         t.with(x -> x.order(3, 0, 2, NONE)).reads(0, x -> x.best(2, 0)).with(x -> x.order(3, NONE, NONE, 0))
             .reads(3, x -> x.best(0, 0)).reads(300, x -> x.best(0, 1));
         t.with(x -> x.order(1, NONE, NONE, NONE)).reads(0, x -> x.best(1, 0));
+        Trial gone = Trial.small("38. best: of the LOADS that WAIT, none of those that GO")
+            .with(x -> x.load(1, 0, 0, 10, 5, 0), x -> x.load(1, 0, 0, 300, 5, 0));
+        gone.reads(480, x -> x.ofGuarantor(1, 3)).reads(0, x -> x.best(1, 0)).reads(0, x -> x.best(1, 1));
+        gone.with(x -> x.load(1, 0, 0, 100, 5, 1)).reads(2, x -> x.best(1, 0)).reads(200, x -> x.best(1, 1));
         Trial free = Trial.small("38. best: of LOADS with NEED 0 none is taken")
             .with(x -> x.stock(1, 1, 9), x -> x.load(1, 0, 0, 300, 5, 0), x -> x.load(1, 0, 1, 9, 5, 1));
         free.reads(0, x -> x.ofLoad(1, 0)).reads(0, x -> x.best(1, 0)).with(x -> x.load(1, 0, 0, 7, 5, 2))
@@ -695,11 +678,7 @@ public final class ReadingsTest {
             .refused(MISSING, x -> x.withdraw(5)).refused(MISSING, x -> x.withdraw(6));
         t.refused(CANNOT, x -> x.withdraw(1)).refused(CANNOT, x -> x.withdraw(1)).refused(CANNOT, x -> x.withdraw(1))
             .with(x -> x.terms(0, 17), x -> x.load(0, 1, 0, 7, 5, 0));
-        int[] want = {2, 2, 3, 6, 1, 2, 1, 1, 1, 214, 20, 9583, 8, 17, 0, 1, 2, 3, 0};
-        for (int w = 0; w < want.length; w++) {
-            int what = w;
-            t.reads(want[w], x -> x.count(what));
-        }
+        t.readsEach((x, what) -> x.count(what), 2, 2, 3, 6, 1, 2, 1, 1, 1, 214, 20, 9583, 8, 17, 0, 1, 2, 3, 0, NONE);
     }
 
     private static void countFull() {
@@ -707,11 +686,8 @@ public final class ReadingsTest {
             .refused(FULL, x -> x.guarantor(1)).refused(FULL, x -> x.store(0, 1, 2));
         t.refused(FULL, x -> x.rate(0, 111, 1)).refused(FULL, x -> x.load(0, 1, 0, 1, 1, 0))
             .refused(FULL, x -> x.split(0, 1, 2));
-        int[] want = {0, 4, 6, 40, 20, 20, 0, 0, 0, 400, 0, 199998 - 400, 8, 30, 0, 0, 0, 0, 5};
-        for (int w = 0; w < want.length; w++) {
-            int what = w;
-            t.reads(want[w], x -> x.count(what));
-        }
+        t.readsEach((x, what) -> x.count(what),
+            0, 4, 6, 40, 20, 20, 0, 0, 0, 400, 0, 199598, 8, 30, 0, 0, 0, 0, 5, NONE);
     }
 
     private static void status() {

@@ -415,9 +415,12 @@ public final class TermsTest {
         t.with(x -> x.load(1, 0, 0, 250, 2, 0), x -> x.load(1, 0, 0, 2, 1, 0));
         t.act(0, x -> x.days(2)).reads(0, x -> x.ofLoad(1, 0)).act(1, x -> x.days(1)).reads(1, x -> x.ofLoad(1, 0));
         t.reads(3, x -> x.ofLoad(1, 7)).act(0, x -> x.days(1)).act(1, x -> x.days(1)).reads(3, x -> x.ofLoad(1, 0));
-        Trial both = Trial.small("II. A DAY: what is LOST frees for the first, ahead of a later one that can go from that DAY");
-        both.with(x -> x.terms(0, 1), x -> x.terms(1, 0), x -> x.rate(0, 1, 0), x -> x.rate(1, 0, 5), x -> x.rate(2, 0, 3));
-        both.with(x -> x.rate(2, 3, 2), x -> x.stock(1, 1, 100), x -> x.stock(1, 2, 50), x -> x.load(1, 0, 0, 200, 1, 0));
+        Trial both = Trial.small(
+            "II. A DAY: what is LOST frees for the first, ahead of a later one that can go from that DAY");
+        both.with(x -> x.terms(0, 1), x -> x.terms(1, 0), x -> x.rate(0, 1, 0), x -> x.rate(1, 0, 5),
+            x -> x.rate(2, 0, 3));
+        both.with(x -> x.rate(2, 3, 2), x -> x.stock(1, 1, 100), x -> x.stock(1, 2, 50),
+            x -> x.load(1, 0, 0, 200, 1, 0));
         both.with(x -> x.load(1, 0, 1, 100, 9, 1), x -> x.load(1, 0, 2, 50, 9, 2)).reads(400, x -> x.count(9));
         both.act(0, x -> x.days(2)).reads(2, x -> x.count(4)).act(1, x -> x.days(1)).reads(1, x -> x.ofLoad(1, 0));
         both.reads(0, x -> x.ofLoad(2, 0)).reads(100, x -> x.ofLoad(2, 13)).reads(500, x -> x.count(9));

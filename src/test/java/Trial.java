@@ -115,7 +115,7 @@ final class Trial {
     Trial act(long want, Call c) {
         due("the act", call(c), want);
         keep(c);
-        told(0);
+        tellsOf(0);
         return this;
     }
 
@@ -126,7 +126,7 @@ final class Trial {
         for (int i = 0; i < REASONS.length; i++) {
             refusals[i] += REASONS[i] == by ? 1 : 0;
         }
-        told(by);
+        tellsOf(by);
         if (wholeDone == null) {
             wholeDone = whole(done);
         }
@@ -144,7 +144,7 @@ final class Trial {
             long answer = other.call(x -> call.on(x, v));
             holds("at the bound " + v + " it answered " + answer, answer >= 0);
             other.keep(x -> call.on(x, v));
-            other.told(0);
+            other.tellsOf(0);
         }
         return this;
     }
@@ -171,6 +171,15 @@ final class Trial {
     /** What a question is answered. */
     Trial reads(long want, Call c) {
         due("the question", call(c), want);
+        return this;
+    }
+
+    /** What a question is answered with 0, 1 and so on. */
+    Trial readsEach(CallWith question, int... want) {
+        for (int i = 0; i < want.length; i++) {
+            int v = i;
+            reads(want[i], x -> question.on(x, v));
+        }
         return this;
     }
 
@@ -242,7 +251,7 @@ final class Trial {
         same("behind what was refused, undo or back changed", whole(a), whole(b));
     }
 
-    private void told(int by) {
+    private void tellsOf(int by) {
         due("status", call(BondStores::status), by);
         for (int i = 0; i < REASONS.length; i++) {
             int what = 15 + i;
