@@ -290,11 +290,15 @@ final class LanguageRules extends TreePathScanner<Void, Void> {
             String type = e.asType().toString();
             if (!e.getModifiers().contains(Modifier.FINAL)
                     || !type.matches("int|long|boolean|char|java\\.lang\\.String|(int|long|char|byte)\\[\\]")
-                    || type.endsWith("[]") && !(tree.getInitializer() instanceof NewArrayTree)) {
+                    || type.endsWith("[]") && !isWrittenOut(tree)) {
                 fault(5, "static state " + e, tree);
             }
         }
         return super.visitVariable(tree, p);
+    }
+
+    private static boolean isWrittenOut(VariableTree tree) {
+        return tree.getInitializer() instanceof NewArrayTree row && row.getInitializers() != null;
     }
 
     private void checkType(TypeMirror type, Tree where) {
@@ -366,9 +370,7 @@ final class LanguageRules extends TreePathScanner<Void, Void> {
     public Void visitNewClass(NewClassTree tree, Void p) {
         Element made = elementHere();
         TypeElement type = (TypeElement) made.getEnclosingElement();
-        if (tree.getClassBody() != null) {
-            fault(2, "an anonymous class", tree);
-        } else if (isOwn(type)) {
+        if (isOwn(type)) {
             if (method != null) {
                 calls.get(method).add((ExecutableElement) made);
             }

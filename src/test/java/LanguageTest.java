@@ -79,10 +79,15 @@ public final class LanguageTest {
         seesNone("private int a; public int f(int v) { return g(v); } private int g(int v) { return Math.max(v, a); }");
         seesNone("private static final int[] A = {1, 2}; public int f(int v) {"
             + " int s = 0; for (int i = 0; i < A.length && s < v; i++) { s += A[i]; } return s; }");
+        source(1, "package a; public final class A { }");
+        source(1, "public class A { }");
+        source(1, "public final class A { } final class B { private B() { } }");
+        source(4, "import java.util.Random; public final class A { }");
         rule(1, "int f() { return 1; }");
         rule(1, "protected int a;");
         rule(1, "public int a;");
         rule(1, "public static class B { }");
+        rule(1, "protected static class B { }");
         rule(1, "public int f() { return f(1); } private int f(int v) { return v; }");
         rule(2, "class B { }");
         rule(2, "public void f() { class B { } }");
@@ -99,16 +104,22 @@ public final class LanguageTest {
         rule(4, "public int f() { return Integer.MAX_VALUE; }");
         rule(4, "public int f(int v) { return Math.addExact(v, 1); }");
         rule(4, "public void f() { System.out.println(); }");
+        rule(4, "private static final String A = \"\u00e9\";");
         rule(4, "public int f() { return new java.util.Random(1).nextInt(); }");
+        rule(4, "public void f() { Object o = new java.util.Random(1); }");
         rule(5, "private static int a;");
-        rule(5, "private static final int[] A = new int[3]; static { A[0] = 1; }");
+        rule(5, "private static final int[] A = new int[3];");
+        rule(5, "private static final int[] A = {1}; static { A[0] = 1; }");
+        rule(5, "private static class B { private static int a; }");
         rule(5, "private static final java.util.List<Integer> A = null;");
         rule(6, "public void f() { throw null; }");
         rule(6, "public void f() { try { f(); } finally { return; } }");
         rule(6, "public void f(int v) { assert v > 0; }");
         rule(6, "public void f() { synchronized (this) { } }");
         rule(6, "public synchronized void f() { }");
+        rule(6, "public void f() throws Exception { }");
         rule(6, "public boolean f(String a, String b) { return a == b; }");
+        rule(6, "public boolean f(Integer a, Integer b) { return a != b; }");
         rule(6, "private static final class B { } public B f(Object o) { return (B) o; }");
         rule(6, "public boolean f(Object o) { return o instanceof String; }");
         rule(6, "private static final class B { public int hashCode() { return 1; } }");
@@ -128,7 +139,10 @@ public final class LanguageTest {
         seesNone(members("private int a#;", 20));
         rule(12, "private static class B { } public void f() { for (int i = 0; i < 9; i++) { B b = new B(); } }");
         rule(12, "private static class B { B() { f(this); } private static void f(B b) { } }");
+        rule(12, "public void f() { for (int i = 0; i < 9; i++) { int[] row = new int[i]; } }");
         rule(12, "private static class B { B() { f(); } void f() { } }");
+        seesNone("private static final class B { private final int[] a; B(int v) { this.a = new int[g(v)]; }"
+            + " private int g(int v) { return v < 0 ? 0 : 1; } }");
     }
 
     /** So many methods that stand open at once. */
@@ -150,17 +164,21 @@ public final class LanguageTest {
     }
 
     private static void rule(int number, String members) throws Exception {
-        List<String> faults = faultsOf(members);
-        Check.isTrue("rule " + number + " is broken by " + members + ", told is " + faults,
+        source(number, around(members));
+    }
+
+    private static void source(int number, String source) throws Exception {
+        List<String> faults = LanguageRules.faultsOf("A", source);
+        Check.isTrue("rule " + number + " is broken by " + source + ", told is " + faults,
             faults.stream().anyMatch(f -> f.startsWith(number + ":")));
     }
 
     private static void seesNone(String members) throws Exception {
-        List<String> faults = faultsOf(members);
+        List<String> faults = LanguageRules.faultsOf("A", around(members));
         Check.isTrue("no rule is broken by " + members + ", told is " + faults, faults.isEmpty());
     }
 
-    private static List<String> faultsOf(String members) throws Exception {
-        return LanguageRules.faultsOf("A", "public final class A { public A() { } " + members + "}");
+    private static String around(String members) {
+        return "public final class A { public A() { } " + members + "}";
     }
 }
